@@ -23,6 +23,8 @@ final class AskTest {
         for (int person : new int[] {-1, 3, 10, Integer.MAX_VALUE, Integer.MIN_VALUE}) {
             DUE.is("behalf of " + person, x.behalf(3120, person), -1);
         }
+        DUE.is("behalf of oneself", x.behalf(9990, 9), -1);
+        DUE.is("behalf of oneself", x.behalf(0, 0), -1);
         DUE.is("nothing is logged", x.count(4), 0);
         DUE.is("ask 9993", x.ask(9993), 2);
         DUE.is("behalf of 9", x.behalf(0, 9), 2);

@@ -7,6 +7,7 @@ final class JudgeTest {
         wrongCallsAreRefused();
         answersAreKeptForSpan();
         spanIsToldLater();
+        theWayIsTwoAtFirst();
         lettersTakeTheirWay();
         lettersComeAtOnce();
         everyChangeSendsLetters();
@@ -86,6 +87,22 @@ final class JudgeTest {
         DUE.is("told what was kept", x.count(6), 1);
         x.go(1);
         DUE.is("telling doesn't make it anew", x.keeps(0), 0);
+    }
+
+    private static void theWayIsTwoAtFirst() {
+        AskTrust x = letting();
+        for (int judge = 0; judge < 4; judge++) {
+            x.judged(judge, 0);
+        }
+        x.roles(0, 0);
+        x.go(1);
+        for (int judge = 0; judge < 4; judge++) {
+            DUE.is("one TICK later", x.keeps(judge), 1);
+        }
+        x.go(1);
+        for (int judge = 0; judge < 4; judge++) {
+            DUE.is("two TICKS later", x.keeps(judge), 0);
+        }
     }
 
     private static void lettersTakeTheirWay() {

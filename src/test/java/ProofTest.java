@@ -10,6 +10,7 @@ final class ProofTest {
         lawsOnMarks();
         lawsOnSpots();
         lawsSeeFirstFitAndWeights();
+        proofsForgetEarlierOnes();
         rulesAreIdle();
         rulesQuarrel();
         DUE.end();
@@ -77,6 +78,17 @@ final class ProofTest {
         DUE.is("STEP UP isn't LET", x.law(1, 423), -1);
     }
 
+    private static void proofsForgetEarlierOnes() {
+        AskTrust x = new AskTrust();
+        x.rule(0, 3000, ANYWHERE, 0);
+        x.rule(1, 3000, ANYWHERE, 2);
+        DUE.is("law 0", x.law(0, 0), 0);
+        DUE.is("a HEAP that shuts", x.law(1, 0), -1);
+        DUE.is("law 0", x.law(0, 0), 0);
+        x.unrule(0, 0);
+        DUE.is("a HEAP without RULES", x.law(0, 0), -1);
+    }
+
     private static void rulesAreIdle() {
         AskTrust x = new AskTrust();
         DUE.no("idle of none", x.idle(0, 0));
@@ -107,6 +119,12 @@ final class ProofTest {
         x.rule(1, 123000, ANYWHERE, 0);
         DUE.no("fewer ROLES", x.idle(1, 2));
         DUE.yes("more ROLES", x.idle(1, 3));
+        AskTrust y = new AskTrust();
+        y.rule(0, 3001, ANYWHERE, 0);
+        y.rule(0, 3000, 10100, 0);
+        y.rule(0, 1000, 10100, 2);
+        DUE.no("just the least FACTS are left", y.idle(0, 1));
+        DUE.yes("none are left", y.idle(0, 2));
     }
 
     private static void rulesQuarrel() {

@@ -7,6 +7,7 @@ final class TellTest {
         rolesAreTold();
         marksAreTold();
         marksAge();
+        sortsAreAlikeAtFirst();
         thingsAreTold();
         sortsAreTold();
         factsAreCoded();
@@ -66,6 +67,20 @@ final class TellTest {
         DUE.is("a LIMIT of 0 lasts for its TICK", x.facts(1100), (2 * 4 + 3) * 80);
         x.go(1);
         DUE.is("but not longer", x.facts(1100), 0);
+    }
+
+    private static void sortsAreAlikeAtFirst() {
+        for (int sort = 0; sort < 3; sort++) {
+            AskTrust x = new AskTrust();
+            x.rule(0, 3002, 151504, 0);
+            x.rule(0, 3001, 151504, 0);
+            x.mark(0, sort, 1);
+            DUE.is("the WEIGHT is 1", x.why(0, 0), 1);
+            x.go(20);
+            DUE.is("the LIMIT is 20", x.why(0, 0), 1);
+            x.go(1);
+            DUE.is("the LIMIT is 20", x.why(0, 0), -1);
+        }
     }
 
     private static void thingsAreTold() {
