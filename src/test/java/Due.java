@@ -1,6 +1,8 @@
 /** Counts the answers of one test that are not as due, and ends it. */
 final class Due {
     private final String test;
+    private String sentence = "";
+    private int sentences;
     private int asked;
     private int wrong;
 
@@ -8,11 +10,17 @@ final class Due {
         this.test = test;
     }
 
+    /** What is asked next stands for this sentence of the document. */
+    void sentence(String words) {
+        sentence = " [" + words + "]";
+        sentences++;
+    }
+
     void is(String call, int got, int want) {
         asked++;
         if (got != want) {
             wrong++;
-            System.out.println(test + ": " + call + " answered " + got + ", due is " + want);
+            System.out.println(test + ": " + call + " answered " + got + ", due is " + want + sentence);
         }
     }
 
@@ -29,7 +37,8 @@ final class Due {
     }
 
     void end() {
-        System.out.println(test + ": " + asked + " answers, " + wrong + " not as due");
+        String of = sentences == 0 ? "" : " to " + sentences + (sentences == 1 ? " sentence" : " sentences");
+        System.out.println(test + ": " + asked + " answers" + of + ", " + wrong + " not as due");
         System.exit(wrong == 0 ? 0 : 1);
     }
 }

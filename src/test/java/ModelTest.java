@@ -5,6 +5,12 @@ final class ModelTest {
     private static final Due DUE = new Due("ModelTest");
     private static final int RUNS = 300;
     private static final int CALLS = 512;
+    private static final int NO_DICE = -1;
+    private static final int DICE_GO = 0;
+    private static final int DICE_RULE = 28;
+    private static final int DICE_ASK = 40;
+    private static final int DICE_JUDGED = 70;
+    private static final int[] FAVOURITES = {NO_DICE, DICE_GO, DICE_RULE, DICE_ASK, NO_DICE, DICE_JUDGED};
 
     private final Random random;
     private final AskTrust x = new AskTrust();
@@ -12,21 +18,33 @@ final class ModelTest {
     /** Runs with few persons and things meet the same ASK more often. */
     private final int crowd;
     private final int proofs;
+    /** A dice that comes up more often in this run, so that some runs fill the log or the HEAPS, or go to the last TICK. */
+    private final int favourite;
     private String call = "";
 
     private ModelTest(int seed) {
         random = new Random(seed);
         crowd = 1 + random.nextInt(10);
         proofs = random.nextInt(4);
+        favourite = FAVOURITES[seed % FAVOURITES.length];
     }
 
     public static void main(String[] args) {
+        boolean sawLastTick = false;
+        boolean sawFullHeap = false;
+        boolean sawFullLog = false;
         for (int run = 0; run < RUNS && !DUE.isWrong(); run++) {
             ModelTest test = new ModelTest(run);
             for (int i = 0; i < CALLS && !DUE.isWrong(); i++) {
                 test.step("run " + run + " call " + i + " ");
             }
+            sawLastTick |= test.m.count(0) == 5000;
+            sawFullHeap |= test.m.count(2) == 12;
+            sawFullLog |= test.m.count(4) == 300;
         }
+        DUE.yes("some run went to the last TICK", sawLastTick);
+        DUE.yes("some run filled a HEAP", sawFullHeap);
+        DUE.yes("some run filled the log", sawFullLog);
         DUE.end();
     }
 
@@ -72,7 +90,8 @@ final class ModelTest {
 
     private void step(String where) {
         call = where;
-        int dice = random.nextInt(100);
+        boolean isFavoured = favourite != NO_DICE && random.nextInt(5) < 3;
+        int dice = isFavoured ? favourite : random.nextInt(100);
         if (dice < 35) {
             change(dice);
         } else if (dice < 65) {
@@ -89,7 +108,7 @@ final class ModelTest {
     private void change(int dice) {
         int a = few();
         if (dice < 9) {
-            int n = random.nextInt(4) == 0 ? upTo(200) : upTo(6);
+            int n = random.nextInt(4) == 0 || favourite == DICE_GO ? upTo(200) : upTo(6);
             same("go " + n, x.go(n), m.go(n));
         } else if (dice < 13) {
             int roles = upTo(15);

@@ -87,6 +87,11 @@ final class ProofTest {
         DUE.is("law 0", x.law(0, 0), 0);
         x.unrule(0, 0);
         DUE.is("a HEAP without RULES", x.law(0, 0), -1);
+        x.rule(0, 13000, ANYWHERE, 0);
+        DUE.is("a RULE that asks for more ROLES", x.law(0, 130), ROLE);
+        x.unrule(0, 0);
+        x.rule(0, 3000, ANYWHERE, 2);
+        DUE.is("a RULE that shuts", x.law(0, 0), -1);
     }
 
     private static void rulesAreIdle() {
